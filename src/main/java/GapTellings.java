@@ -39,7 +39,6 @@ public final class GapTellings {
     private int bestValue;
     private boolean bestKnown;
     private final GreedyFinder greedyFinder = new GreedyFinder(film, track);
-    private boolean greedyKnown;
 
     public GapTellings() {
         int length = Math.min(FIRST_TEXT.length(), MOST_LETTERS);
@@ -288,7 +287,7 @@ public final class GapTellings {
     }
 
     public int greedy() {
-        findGreedy();
+        greedyFinder.fillPlan();
         return greedyFinder.plan.valueOn(track) + ZERO;
     }
 
@@ -296,7 +295,7 @@ public final class GapTellings {
         if (!hasPicture(p) || what < 0 || what > 1) {
             return BAD;
         }
-        findGreedy();
+        greedyFinder.fillPlan();
         return what == 0 ? greedyFinder.plan.versions[p] : greedyFinder.plan.starts[p];
     }
 
@@ -348,7 +347,7 @@ public final class GapTellings {
     private void filmChanged() {
         track.listen(NO_SOUND, 0);
         bestKnown = false;
-        greedyKnown = false;
+        greedyFinder.known = false;
     }
 
     private void findBest() {
@@ -358,14 +357,6 @@ public final class GapTellings {
         bestValue = bestFinder.solve(track, film.breath, film.allPictures());
         bestFinder.trace(track, film.breath, bestPlan);
         bestKnown = true;
-    }
-
-    private void findGreedy() {
-        if (greedyKnown) {
-            return;
-        }
-        greedyFinder.fill();
-        greedyKnown = true;
     }
 
     private int ticksOpenNow(int p, int v) {
@@ -640,7 +631,7 @@ public final class GapTellings {
         int whyNotBesideOthers(int p, int v, int t) {
             int end = t + film.pictures[p].lengths[v];
             for (int q = 0; q < film.pictureCount; q++) {
-                if (q != p && has(q) && isTooNear(q, t, end)) {
+                if (q != p && has(q) && starts[q] - end < film.breath && t - endOf(q) < film.breath) {
                     return 4;
                 }
             }
@@ -654,10 +645,6 @@ public final class GapTellings {
                 }
             }
             return 0;
-        }
-
-        boolean isTooNear(int q, int begin, int end) {
-            return starts[q] - end < film.breath && begin - endOf(q) < film.breath;
         }
 
         /** A picture that goes can give another one a WHY NOT, so each time it is looked from the lowest on. */
@@ -839,6 +826,8 @@ public final class GapTellings {
         private final Film film;
         private final Track track;
         private final Plan plan;
+        /** Whether the plan is that of the film as it is now. */
+        private boolean known;
         /** Versions that are passed over, a bit each. */
         private int passed;
         private int foundPicture;
@@ -853,7 +842,11 @@ public final class GapTellings {
             this.plan = new Plan(film);
         }
 
-        void fill() {
+        void fillPlan() {
+            if (known) {
+                return;
+            }
+            known = true;
             plan.clear();
             passed = 0;
             // Each round takes one version out of those that are looked at.

@@ -263,6 +263,8 @@ public final class RulesEdgesTest {
         Edges.due("a loss for what NEEDS it", Edges.laid("f9;p1,0,0,2,1;p5,0,0,2,9;g1,3;c0,1;").best(), 9 + 1 - 6);
         bestIs("f9;p0,0,0,1,9;p2,0,0,1,8;p4,0,0,1,7;c0,2;", 0, 0, 0, 2, 0, 4);
         bestIs("f9;p0,0,9,1,9;p2,0,0,1,8;s6,9;", 0, 0, 0, 2);
+        bestIs("f9;p0,0,0,2,9;p5,0,0,2,9;p1,0,0,2,3;", 0, 0, 0, 5, NONE, NONE);
+        bestIs("f9;p0,0,0,2,3;p5,0,0,2,9;p1,0,0,2,9;", NONE, NONE, 0, 5, 0, 1);
         Edges.due("not if the loss is more", Edges.laid("f9;p1,0,0,2,1;p5,0,0,2,4;g1,3;c0,1;").best(), 0);
     }
 

@@ -7,7 +7,7 @@ import java.util.regex.Pattern;
  * The document's words done as slowly and as plainly as can be: ticks are walked one by one, and BEST is found by
  * trying every plan. The tests ask it what is due.
  */
-final class PlainModel {
+class PlainModel {
     static final String FIRST = "f60;s0,6;s14,20;g20,28;s33,40;n44,50;p8,4,4,6,9,3,5;p18,6,8,7,12,4,7;"
         + "p30,9,5,8,20,5,12,2,6;p42,3,9,5,8;p55,9,2,4,6,2,3;c1,2;b1;";
     private static final int BAD = -1, NO = -2, FULL = -3, NONE = -4, ZERO = 100000;
@@ -347,7 +347,7 @@ final class PlainModel {
         return t >= 0 && t < ticks;
     }
 
-    private int length(int p, int v) {
+    final int length(int p, int v) {
         return pics.get(p).versions.get(v).length();
     }
 
@@ -365,7 +365,7 @@ final class PlainModel {
         return false;
     }
 
-    private int whyNot(int[][] plan, int p, int v, int t) {
+    final int whyNot(int[][] plan, int p, int v, int t) {
         Pic pic = pics.get(p);
         int end = t + length(p, v);
         if (end > ticks) return 1;
@@ -389,7 +389,7 @@ final class PlainModel {
         return 0;
     }
 
-    private int gained(int p, int v, int t) {
+    final int gained(int p, int v, int t) {
         Pic pic = pics.get(p);
         int sum = pic.versions.get(v).worth();
         if (t < pic.tick) sum -= rates[0] * (pic.tick - t);
@@ -416,7 +416,7 @@ final class PlainModel {
     }
 
     /** Every plan, pictures in the order of their numbers; what a picture needs is of a lower number. */
-    private int[][] bestPlan(int set) {
+    int[][] bestPlan(int set) {
         int[][][] found = {new int[pics.size()][]};
         tryAll(new int[pics.size()][], 0, set, found, new int[] {0});
         return found[0];
@@ -446,7 +446,7 @@ final class PlainModel {
         }
     }
 
-    private boolean goesFirst(int[][] one, int[][] other) {
+    final boolean goesFirst(int[][] one, int[][] other) {
         for (int t = 0; t < ticks; t++) {
             int a = beginner(one, t), b = beginner(other, t);
             if (a == b) continue;

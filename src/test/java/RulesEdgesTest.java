@@ -360,11 +360,13 @@ public final class RulesEdgesTest {
         greedyIs("f9;p4,0,0,3,9;p4,0,0,2,7;g0,9;", NONE, NONE, 0, 4);
         greedyIs("f9;p1,0,0,1,3;p5,0,0,1,9;g1,2;c0,1;", NONE, NONE, NONE, NONE);
         greedyIs("f9;");
-        StringBuilder most = new StringBuilder("f9;g0,9;");
-        for (int p = 0; p < 6; p++) most.append("p4,0,0,2,6,2,5,1,3;");
-        GapTellings x = Edges.laid(most + "p4,0,0,2,6,2,5,1,4;");
-        Edges.dueAll("the last of 21 that are looked at", new int[] {x.greedy(), x.greedyOf(6, 0), x.greedyOf(6, 1)}, ZERO + 1, 2, 4);
-        GapTellings none = Edges.laid(most + "p4,0,0,2,6,2,5,1,3;");
+        StringBuilder most = new StringBuilder("f9;g0,8;");
+        for (int p = 0; p < 6; p++) most.append("p4,0,0,1,3,1,3,1,3;");
+        // The last picture has two of GAIN 0 over the song, and a short one of less worth than all behind it.
+        GapTellings x = Edges.laid(most + "p7,0,1,2,3,2,3,1,2;");
+        Edges.dueAll("20 are passed over, the last of 21 is PLACED", new int[] {x.greedy(), x.greedyOf(6, 0), x.greedyOf(6, 1)},
+            ZERO + 1, 2, 8);
+        GapTellings none = Edges.laid(most + "p4,0,0,1,3,1,3,1,3;");
         Edges.dueAll("all 21 are passed over", new int[] {none.greedy(), none.greedyOf(6, 0)}, ZERO, NONE);
     }
 
